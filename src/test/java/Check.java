@@ -45,6 +45,10 @@ final class Check {
         }
     }
 
+    boolean isGood() {
+        return wrong == 0;
+    }
+
     void end() {
         System.out.println(made + " answers looked at, " + wrong + " are not as due");
         if (wrong != 0) {
