@@ -111,7 +111,6 @@ public final class WordSolver {
         if (n < 0 || n > MOST_STEPS) {
             throw new IllegalArgumentException("steps are 0 to 500");
         }
-        reducer.rest();
         for (int i = 0; i < n && state() == EQUATIONS_WAIT; i++) {
             step();
         }
@@ -123,7 +122,6 @@ public final class WordSolver {
             throw new IllegalArgumentException("no such word");
         }
         Word word = told(which);
-        reducer.rest();
         reducer.lessen(word);
         return word.length;
     }
@@ -131,7 +129,6 @@ public final class WordSolver {
     public int same() {
         one.copy(a);
         other.copy(b);
-        reducer.rest();
         reducer.lessen(one);
         reducer.lessen(other);
         if (one.isLike(other)) {
@@ -187,7 +184,6 @@ public final class WordSolver {
 
     public long index() {
         one.copy(a);
-        reducer.rest();
         reducer.lessen(one);
         if (one.length > LONGEST_NUMBERED) {
             return NONE;
@@ -202,7 +198,6 @@ public final class WordSolver {
 
     public int order() {
         one.clear();
-        reducer.rest();
         for (int n = 1; n <= MOST_TIMES; n++) {
             if (one.length + a.length > LONGEST) {
                 return NONE;
@@ -564,17 +559,15 @@ public final class WordSolver {
      */
     private static final class Matcher {
         static final int START = 0;
-        // Most rule rows are short: the full rows are made only for those that are not.
-        static final int FEW_STATES = 96;
         static final int MOST_STATES = 1 + MOST_RULES * LONGEST;
 
         final Rules rules;
-        int[] next = new int[FEW_STATES * MOST_LETTERS];
+        final int[] next = new int[MOST_STATES * MOST_LETTERS];
         // The state of the longest lesser end.
-        int[] back = new int[FEW_STATES];
+        final int[] back = new int[MOST_STATES];
         // The rule with the longest left word that ends here.
-        int[] ending = new int[FEW_STATES];
-        int[] queue = new int[FEW_STATES];
+        final int[] ending = new int[MOST_STATES];
+        final int[] queue = new int[MOST_STATES];
         int states;
         int version;
 
@@ -587,7 +580,7 @@ public final class WordSolver {
                 return;
             }
             version = rules.version;
-            makeRoom(1 + rules.lettersOfLefts());
+            wipe(1 + rules.lettersOfLefts());
             states = 1;
             for (int k = 0; k < rules.number; k++) {
                 plant(rules.lefts[k], k);
@@ -603,13 +596,8 @@ public final class WordSolver {
             return ending[state] == NONE;
         }
 
-        private void makeRoom(int needed) {
-            if (needed > back.length) {
-                next = new int[MOST_STATES * MOST_LETTERS];
-                back = new int[MOST_STATES];
-                ending = new int[MOST_STATES];
-                queue = new int[MOST_STATES];
-            }
+        /** Only what will be used, as most left words are few and short. */
+        private void wipe(int needed) {
             Arrays.fill(next, 0, needed * MOST_LETTERS, START);
             Arrays.fill(back, 0, needed, START);
             Arrays.fill(ending, 0, needed, NONE);
@@ -660,27 +648,100 @@ public final class WordSolver {
         }
     }
 
+    /**
+     * What reading on came to, from a state and an unread rest. Places are few: what finds none takes
+     * another's, and that is found out anew when it is needed.
+     */
+    private static final class Memory {
+        static final int PLACE_BITS = 10;
+        static final int PLACES = 1 << PLACE_BITS;
+        static final int TRIES = 8;
+        // Odd, and without a pattern in its bits: it spreads the questions over the places.
+        static final long SPREAD = 0x9E3779B97F4A7C15L;
+
+        final int[] states = new int[PLACES];
+        final long[] nears = new long[PLACES];
+        final long[] fars = new long[PLACES];
+        final int[] taken = new int[PLACES];
+        final long[] nearsAfter = new long[PLACES];
+        final long[] farsAfter = new long[PLACES];
+        // A place is in use when it was filled in this age.
+        final long[] ages = new long[PLACES];
+        long age = 1;
+        int lastTry;
+
+        void forget() {
+            age++;
+        }
+
+        int placeOf(int state, long near, long far) {
+            int home = home(state, near, far);
+            for (int i = 0; i < TRIES; i++) {
+                int place = (home + i) % PLACES;
+                if (ages[place] == age && states[place] == state && nears[place] == near && fars[place] == far) {
+                    return place;
+                }
+            }
+            return NONE;
+        }
+
+        void add(int state, long near, long far, int lettersTaken, long nearAfter, long farAfter) {
+            if (placeOf(state, near, far) == NONE) {
+                int place = roomNear(home(state, near, far));
+                ages[place] = age;
+                states[place] = state;
+                nears[place] = near;
+                fars[place] = far;
+                taken[place] = lettersTaken;
+                nearsAfter[place] = nearAfter;
+                farsAfter[place] = farAfter;
+            }
+        }
+
+        private int home(int state, long near, long far) {
+            long mixed = ((near * SPREAD ^ far) * SPREAD ^ state) * SPREAD;
+            return (int) (mixed >>> 64 - PLACE_BITS);
+        }
+
+        private int roomNear(int home) {
+            for (int i = 0; i < TRIES; i++) {
+                int place = (home + i) % PLACES;
+                if (ages[place] != age) {
+                    return place;
+                }
+            }
+            lastTry = (lastTry + 1) % TRIES;
+            return (home + lastTry) % PLACES;
+        }
+    }
+
     /** Reduces words. */
     private static final class Reducer {
-        // Reducing always ends, but some rules count down like a clock of forty digits: no call may
-        // take that long. What is not reduced by then stays as it is.
-        static final int MOST_TURNS = 100_000_000;
+        // Reducing ends because each replacement makes the word lesser, and there are less than 2^104
+        // words of at most 40 letters; between two replacements at most 40 letters are read. So a
+        // word has less than 2^110 turns, and rounds of turns may be 2^120.
+        static final long MOST_ROUNDS = 1L << 60;
+        static final long TURNS_OF_A_ROUND = 1L << 60;
+        // Nearly every word is reduced by then; it pays to remember for the others alone.
+        static final int FEW_TURNS = 1000;
+        static final int TOP_PLACE = 3 * (Word.PACKED - 1);
+        static final long ALL_PLACES = (1L << 3 * Word.PACKED) - 1;
 
         final Rules rules;
         final Matcher matcher;
-        final byte[] unread = new byte[LONGEST];
+        final Memory memory = new Memory();
+        // For each length of what is read: the matcher's state, and what was unread when it came to it.
         final int[] path = new int[LONGEST + 1];
-        int unreadLength;
-        int turns = MOST_TURNS;
+        final long[] nearThen = new long[LONGEST + 1];
+        final long[] farThen = new long[LONGEST + 1];
+        // What is unread, packed as in Word, the letter to be read first in the lowest place: the
+        // first letters are near, those that find no place there far.
+        long near;
+        long far;
 
         Reducer(Rules rules, Matcher matcher) {
             this.rules = rules;
             this.matcher = matcher;
-        }
-
-        /** Every call of the face has all turns for itself. */
-        void rest() {
-            turns = MOST_TURNS;
         }
 
         /**
@@ -689,33 +750,73 @@ public final class WordSolver {
          */
         void lessen(Word word) {
             matcher.keepUp();
-            unreadLength = 0;
-            putBack(word);
+            near = word.packed(0);
+            far = word.packed(Word.PACKED);
             word.clear();
             path[0] = Matcher.START;
-            for (; turns > 0 && unreadLength > 0; turns--) {
-                unreadLength--;
-                int letter = unread[unreadLength];
-                int state = matcher.after(path[word.length], letter);
-                int rule = matcher.ending[state];
-                if (rule == NONE) {
-                    word.push(letter);
-                    path[word.length] = state;
-                } else {
-                    word.length -= rules.lefts[rule].length - 1;
-                    putBack(rules.rights[rule]);
-                }
+            for (int turn = 0; turn < FEW_TURNS && near != 0; turn++) {
+                read(word);
             }
-            for (; unreadLength > 0; unreadLength--) {
-                word.push(unread[unreadLength - 1]);
+            memory.forget();
+            for (long round = 0; round < MOST_ROUNDS && near != 0; round++) {
+                for (long turn = 0; turn < TURNS_OF_A_ROUND && near != 0; turn++) {
+                    readAndRemember(word);
+                }
             }
         }
 
-        /** The letter to be read first lies on top. */
+        private void read(Word word) {
+            int letter = takeLetter();
+            int state = matcher.after(path[word.length], letter);
+            int rule = matcher.ending[state];
+            if (rule == NONE) {
+                word.push(letter);
+                path[word.length] = state;
+                nearThen[word.length] = near;
+                farThen[word.length] = far;
+            } else {
+                word.length -= rules.lefts[rule].length - 1;
+                putBack(rules.rights[rule]);
+            }
+        }
+
+        /**
+         * From a state and what is unread then, it is certain how it goes on until letters that were
+         * read before are taken away: how many of them, and what is unread thereafter. Rules that
+         * count down come to the same state and rest again and again.
+         */
+        private void readAndRemember(Word word) {
+            int longest = word.length;
+            read(word);
+            if (word.length > longest) {
+                longest = word.length;
+                recall(word);
+            }
+            for (int length = longest; length > word.length; length--) {
+                memory.add(path[length], nearThen[length], farThen[length], length - word.length, near, far);
+            }
+        }
+
+        private void recall(Word word) {
+            int place = memory.placeOf(path[word.length], near, far);
+            if (place != NONE) {
+                word.length -= memory.taken[place];
+                near = memory.nearsAfter[place];
+                far = memory.farsAfter[place];
+            }
+        }
+
+        private int takeLetter() {
+            int letter = (int) (near & 7) - 1;
+            near = near >>> 3 | (far & 7) << TOP_PLACE;
+            far >>>= 3;
+            return letter;
+        }
+
         private void putBack(Word word) {
             for (int i = word.length - 1; i >= 0; i--) {
-                unread[unreadLength] = word.letters[i];
-                unreadLength++;
+                far = far << 3 | near >>> TOP_PLACE;
+                near = (near << 3 | word.letters[i] + 1) & ALL_PLACES;
             }
         }
     }
@@ -724,10 +825,10 @@ public final class WordSolver {
     private static final class Census {
         final Matcher matcher;
         // In row n, for each state: how many n letters can follow so that no left word stands there.
-        long[] followers = new long[(LONGEST_NUMBERED + 1) * Matcher.FEW_STATES];
-        long[] ways = new long[Matcher.FEW_STATES];
-        int[] entries = new int[Matcher.FEW_STATES];
-        int[] queue = new int[Matcher.FEW_STATES];
+        final long[] followers = new long[(LONGEST_NUMBERED + 1) * Matcher.MOST_STATES];
+        final long[] ways = new long[Matcher.MOST_STATES];
+        final int[] entries = new int[Matcher.MOST_STATES];
+        final int[] queue = new int[Matcher.MOST_STATES];
         int rows;
         int letters;
         int version;
@@ -742,7 +843,6 @@ public final class WordSolver {
             letters = letterNumber;
             if (version != matcher.version) {
                 version = matcher.version;
-                makeRoom(matcher.states);
                 rows = 0;
             }
             for (; rows <= n; rows++) {
@@ -814,15 +914,6 @@ public final class WordSolver {
 
         private long following(int n, int state) {
             return followers[n * matcher.states + state];
-        }
-
-        private void makeRoom(int needed) {
-            if (needed > ways.length) {
-                followers = new long[(LONGEST_NUMBERED + 1) * Matcher.MOST_STATES];
-                ways = new long[Matcher.MOST_STATES];
-                entries = new int[Matcher.MOST_STATES];
-                queue = new int[Matcher.MOST_STATES];
-            }
         }
 
         private void fillRow() {

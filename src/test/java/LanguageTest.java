@@ -1,4 +1,6 @@
 import java.io.IOException;
+import java.lang.reflect.Field;
+import java.math.BigInteger;
 import java.nio.file.Files;
 import java.nio.file.Path;
 import java.util.ArrayList;
@@ -10,11 +12,13 @@ import java.util.regex.Pattern;
 public final class LanguageTest {
     private static final Path SOURCE = Path.of("src/main/java/WordSolver.java");
     private static final int LONGEST_METHOD = 60;
+    // In the constructor of the row of rules.
+    private static final String MADE_BY_RULES =
+            "[                lefts[k] = new Word();,                 rights[k] = new Word();]";
 
-    public static void main(String[] args) throws IOException {
+    public static void main(String[] args) throws IOException, ReflectiveOperationException {
         Check check = new Check();
-        List<String> lines = Files.readAllLines(SOURCE);
-        String code = withoutComments(String.join("\n", lines));
+        String code = withoutComments(Files.readString(SOURCE));
         check.due("imports", all(code, "import [^;]*;").toString(), "[import java.util.Arrays;]");
         check.due("package, lambda, method reference and other forms left out", all(code, "^package|->|::|"
                 + "\\b(synchronized|assert|finally|try|native|volatile|yield|var|hashCode|toString|equals)\\b").toString(),
@@ -26,12 +30,33 @@ public final class LanguageTest {
                 "[]");
         check.due("exceptions", all(code, "throw (?!new Illegal(State|Argument)Exception\\(\"[^\"]*\"\\);).*").toString(),
                 "[]");
+        check.due("objects that are not made by a constructor", code.lines()
+                .filter(line -> line.matches(".*\\bnew\\b.*"))
+                .filter(line -> !line.matches(" *throw new .*|    (    )?(private )?final \\S+ \\w+ = new .*;")).toList()
+                .toString(), MADE_BY_RULES);
         check.due("texts joined by +", all(code, "\" \\+|\\+ \"").toString(), "[]");
         for (String method : code.split("\n\n")) {
             check.due("a long method: " + method.strip().lines().findFirst().orElse(""),
                     method.lines().count() > LONGEST_METHOD, false);
         }
+        check.due("reducing can take as many turns as any word may need", mostTurns().compareTo(neededTurns()) >= 0, true);
         check.end();
+    }
+
+    /** A replacement makes the word lesser, so that it never comes again; ahead of it at most 40 letters are read. */
+    private static BigInteger neededTurns() {
+        BigInteger words = BigInteger.valueOf(6).pow(41).subtract(BigInteger.ONE).divide(BigInteger.valueOf(5));
+        return words.multiply(BigInteger.valueOf(41));
+    }
+
+    private static BigInteger mostTurns() throws ReflectiveOperationException {
+        BigInteger most = BigInteger.ONE;
+        for (String name : List.of("MOST_ROUNDS", "TURNS_OF_A_ROUND")) {
+            Field field = Class.forName("WordSolver$Reducer").getDeclaredField(name);
+            field.setAccessible(true);
+            most = most.multiply(BigInteger.valueOf(field.getLong(null)));
+        }
+        return most;
     }
 
     private static String withoutComments(String text) {

@@ -264,7 +264,8 @@ final class PlainSolver {
         return now;
     }
 
-    private String replaceFirstEnding(String word) {
+    /** What one replacement makes of the word; null when no left word stands in it. */
+    String replaceFirstEnding(String word) {
         for (int end = 1; end <= word.length(); end++) {
             Rule best = null;
             for (Rule rule : rules) {
