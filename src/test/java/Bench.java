@@ -1,15 +1,112 @@
-/** A WordSolver with words as texts of digits, so that tests can be read. */
+/**
+ * A WordSolver with words as texts of digits, so that tests can be read. It counts the calls: what an
+ * object answers after its 512th call is free, so a test that it is made for may not look at that.
+ */
 final class Bench {
+    static final int MOST_CALLS = 512;
+    // What crowd() makes: so many rules, and so many equations that wait when no other was told.
+    static final int CROWD_RULES = 32;
+    static final int CROWD = 960;
+
     final WordSolver solver = new WordSolver();
+    private final int mostCalls;
+    private int calls;
+
+    /** A new object, on which no call was made. */
+    Bench() {
+        this.mostCalls = MOST_CALLS;
+    }
 
     Bench(int letters) {
-        solver.begin(letters);
+        this(letters, MOST_CALLS);
+    }
+
+    private Bench(int letters, int mostCalls) {
+        this.mostCalls = mostCalls;
+        begin(letters);
+    }
+
+    /** For a test that fills rows which 512 calls do not fill, and asks nothing that is free then. */
+    static Bench endless(int letters) {
+        return new Bench(letters, Integer.MAX_VALUE);
+    }
+
+    int begin(int n) {
+        return called().begin(n);
+    }
+
+    int letter(int which, int letter) {
+        return called().letter(which, letter);
+    }
+
+    int erase(int which) {
+        return called().erase(which);
+    }
+
+    int equation() {
+        return called().equation();
+    }
+
+    int inverse(int x, int y) {
+        return called().inverse(x, y);
+    }
+
+    int run(int n) {
+        return called().run(n);
+    }
+
+    int reduce(int which) {
+        return called().reduce(which);
+    }
+
+    int same() {
+        return called().same();
+    }
+
+    int at(int what, int i) {
+        return called().at(what, i);
+    }
+
+    long words(int n) {
+        return called().words(n);
+    }
+
+    long size() {
+        return called().size();
+    }
+
+    int find(long k) {
+        return called().find(k);
+    }
+
+    long index() {
+        return called().index();
+    }
+
+    int order() {
+        return called().order();
+    }
+
+    int count(int what) {
+        return called().count(what);
+    }
+
+    int callsLeft() {
+        return mostCalls - calls;
+    }
+
+    private WordSolver called() {
+        calls++;
+        if (calls > mostCalls) {
+            throw new AssertionError("the test makes more than " + mostCalls + " calls on one object");
+        }
+        return solver;
     }
 
     Bench tell(int which, String word) {
-        solver.erase(which);
+        erase(which);
         for (int i = 0; i < word.length(); i++) {
-            solver.letter(which, word.charAt(i) - '0');
+            letter(which, word.charAt(i) - '0');
         }
         return this;
     }
@@ -18,40 +115,80 @@ final class Bench {
     Bench equation(String one, String other) {
         tell(0, one);
         tell(1, other);
-        solver.equation();
+        equation();
         return this;
     }
 
-    /** Equations that wait and make, if it comes to them, no more than a rule. */
-    Bench fill(int number) {
-        for (int i = 0; i < number / 2; i++) {
-            solver.inverse(0, 0);
+    /** Each of the words and the empty one; A and B must be empty. */
+    Bench nothings(String... words) {
+        for (String word : words) {
+            for (int i = 0; i < word.length(); i++) {
+                letter(0, word.charAt(i) - '0');
+            }
+            equation();
         }
-        if (number % 2 == 1) {
-            solver.equation();
+        return this;
+    }
+
+    /**
+     * All 32 words of five letters 0 and 1 become left words; 960 equations of their overlaps wait,
+     * behind those that are told here, two words each.
+     */
+    Bench crowd(String... told) {
+        for (int bits = 0; bits < CROWD_RULES; bits++) {
+            nothings(Integer.toBinaryString(CROWD_RULES | bits).substring(1));
+        }
+        for (int i = 0; i < told.length; i += 2) {
+            equation(told[i], told[i + 1]);
+        }
+        run(CROWD_RULES);
+        return this;
+    }
+
+    /** As many equations wait as are named, the last ones of 00 and the empty word or of nothing at all. */
+    Bench fillTo(int number) {
+        int waiting = count(2);
+        for (int i = 0; i < (number - waiting) / 2; i++) {
+            inverse(0, 0);
+        }
+        if ((number - waiting) % 2 == 1) {
+            erase(0);
+            erase(1);
+            equation();
         }
         return this;
     }
 
     String word(int what) {
         StringBuilder text = new StringBuilder();
-        for (int i = 0; solver.at(what, i) >= 0; i++) {
-            text.append(solver.at(what, i));
+        for (int letter = at(what, 0); letter >= 0; letter = at(what, text.length())) {
+            text.append(letter);
         }
         return text.toString();
     }
 
+    /** A and B. */
+    String told() {
+        return word(0) + "," + word(1);
+    }
+
     String rules() {
+        return rulesFrom(0);
+    }
+
+    /** The rules from one on, to look at the new ones of many. */
+    String rulesFrom(int first) {
         StringBuilder text = new StringBuilder();
-        for (int k = 0; k < solver.count(1); k++) {
-            text.append(k == 0 ? "" : " ").append(word(2 + 2 * k)).append('>').append(word(3 + 2 * k));
+        int rules = count(1);
+        for (int k = first; k < rules; k++) {
+            text.append(k == first ? "" : " ").append(word(2 + 2 * k)).append('>').append(word(3 + 2 * k));
         }
         return text.toString();
     }
 
     String reduced(String word) {
         tell(0, word);
-        solver.reduce(0);
+        reduce(0);
         return word(0);
     }
 
@@ -59,31 +196,59 @@ final class Bench {
     String counts() {
         StringBuilder text = new StringBuilder();
         for (int what = 0; what <= 8; what++) {
-            text.append(what == 0 ? "" : " ").append(solver.count(what));
+            text.append(what == 0 ? "" : " ").append(count(what));
         }
         return text.toString();
+    }
+
+    /** All that can be seen of it without a change, but for the equations that wait. */
+    String picture() {
+        return counts() + " | " + told() + " | " + rules();
     }
 
     /** The symmetries of a triangle: 6 words, 6 rules, complete. */
     static Bench triangle() {
         Bench bench = new Bench(2).equation("000", "").equation("11", "").equation("101", "00");
-        bench.solver.run(500);
+        bench.run(500);
         return bench;
     }
 
     /** Four letters of which two undo one another: 4 rules, complete, infinitely many words. */
     static Bench free() {
         Bench bench = new Bench(4);
-        bench.solver.inverse(0, 1);
-        bench.solver.inverse(2, 3);
-        bench.solver.run(500);
+        bench.inverse(0, 1);
+        bench.inverse(2, 3);
+        bench.run(500);
         return bench;
     }
 
-    /** Stopped in its first step by a word of 41 letters. */
+    /** Each of them makes a rule with a left word of 4 letters, and no equation; there may be 81. */
+    static Bench manyRules(int number) {
+        Bench bench = new Bench(6);
+        for (int i = 0; i < number; i++) {
+            bench.nothings("" + (3 + i % 3) + (i / 3 % 3) + (i / 9 % 3) + (i / 27));
+        }
+        return bench;
+    }
+
+    /** Stopped in its first step by a word of 41 letters; no equation waits. */
     static Bench stopped() {
         Bench bench = new Bench(2).equation("1" + "0".repeat(19) + "1", "0".repeat(21));
-        bench.solver.run(1);
+        bench.run(1);
+        return bench;
+    }
+
+    /** Stopped by its 65th rule; no equation waits. */
+    static Bench stoppedByRule() {
+        Bench bench = manyRules(65);
+        bench.run(65);
+        return bench;
+    }
+
+    /** Stopped by equation 1001, which is made of the rule 222. */
+    static Bench stoppedByEquation() {
+        Bench bench = new Bench(6).crowd("222", "").fillTo(1000);
+        bench.run(1);
         return bench;
     }
 }

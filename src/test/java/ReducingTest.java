@@ -18,7 +18,6 @@ public final class ReducingTest {
     private static final String[][] DIGITS = {{"1", "2"}, {"1", "2"}, {"1", "2", "3"}, {"1", "2", "3", "4"},
         {"11", "12"}};
 
-
     private final Check check = new Check();
     private int compared;
     private int many;
@@ -47,34 +46,32 @@ public final class ReducingTest {
         for (int i = 0; i < words.length; i += 2) {
             bench.equation(words[i], words[i + 1]);
         }
-        bench.solver.run(words.length / 2);
+        bench.run(words.length / 2);
         return bench;
     }
 
     private void binaryDigits() {
-        Bench bench = counter(0);
-        check.due("rules", bench.rules(), "10>02 20>13 32>23 34>04");
+        check.due("rules", counter(0).rules(), "10>02 20>13 32>23 34>04");
         for (int digits = 1; digits <= 38; digits++) {
             String twos = "2".repeat(digits);
-            check.due(digits + " digits", bench.reduced(twos + "04"), "0" + twos + "4");
+            check.due(digits + " digits", counter(0).reduced(twos + "04"), "0" + twos + "4");
         }
     }
 
     /** Of thirty-eight digits these are more than 4^38 replacements. */
     private void moreThanALongCanCount() {
-        Bench bench = counter(3);
-        check.due("rules", bench.rules(), "10>04 20>15 30>25 40>35 54>45 50>00");
+        check.due("rules", counter(3).rules(), "10>04 20>15 30>25 40>35 54>45 50>00");
         for (int digits = 2; digits <= 38; digits++) {
-            check.due(digits + " digits", bench.reduced("4".repeat(digits) + "00"), "0" + "4".repeat(digits - 1) + "35");
+            check.due(digits + " digits", counter(3).reduced("4".repeat(digits) + "00"),
+                    "0" + "4".repeat(digits - 1) + "35");
         }
     }
 
     private void digitsOfTwoLetters() {
-        Bench bench = counter(4);
-        check.due("rules", bench.rules(), "110>012 120>113 312>123 34>04");
+        check.due("rules", counter(4).rules(), "110>012 120>113 312>123 34>04");
         for (int digits = 1; digits <= 19; digits++) {
             String greatest = "12".repeat(digits);
-            check.due(digits + " digits", bench.reduced(greatest + "04"), "0" + greatest + "4");
+            check.due(digits + " digits", counter(4).reduced(greatest + "04"), "0" + greatest + "4");
         }
     }
 
@@ -82,53 +79,53 @@ public final class ReducingTest {
         Bench bench = new Bench(5).equation("10", "02").equation("20", "13").equation("32", "23").equation("34", "04")
                 .equation("2".repeat(30) + "04", "0" + "2".repeat(30) + "4")
                 .equation("2".repeat(31) + "04", "4");
-        bench.solver.run(4);
+        bench.run(4);
         String before = bench.rules();
-        bench.solver.run(1);
+        bench.run(1);
         check.due("no rule of two words that are the same reduced", bench.rules(), before);
-        bench.solver.run(1);
+        bench.run(1);
         check.due("the new rule is reduced", bench.rules(), before + " 0" + "2".repeat(31) + "4>4");
-        check.due("steps", bench.solver.count(3), 6);
+        check.due("steps", bench.count(3), 6);
 
         Bench rights = new Bench(6).equation("5" + "0".repeat(34), "2".repeat(32) + "04")
                 .equation("10", "02").equation("20", "13").equation("32", "23").equation("34", "04");
-        rights.solver.run(5);
+        rights.run(5);
         check.due("right words", rights.word(3), "0" + "2".repeat(32) + "4");
     }
 
     private void inSame() {
         Bench bench = counter(0);
         bench.tell(0, "2".repeat(37) + "04").tell(1, "0" + "2".repeat(37) + "4");
-        check.due("same", bench.solver.same(), 1);
+        check.due("same", bench.same(), 1);
         bench.tell(1, "1" + "2".repeat(37) + "4");
-        check.due("not the same, and not complete", bench.solver.same(), -1);
+        check.due("not the same, and not complete", bench.same(), -1);
         check.due("they stay", bench.word(0), "2".repeat(37) + "04");
     }
 
     private void inIndex() {
         Bench bench = counter(0);
-        long due = bench.tell(0, "0" + "2".repeat(18) + "4").solver.index();
-        check.due("index", bench.tell(0, "2".repeat(18) + "04").solver.index(), due);
-        check.due("it is so of its word", bench.solver.find(due), 20);
+        long due = bench.tell(0, "0" + "2".repeat(18) + "4").index();
+        check.due("index", bench.tell(0, "2".repeat(18) + "04").index(), due);
+        check.due("it is so of its word", bench.find(due), 20);
         check.due("the word", bench.word(0), "0" + "2".repeat(18) + "4");
     }
 
     private void inOrder() {
         Bench bench = new Bench(5).equation("10", "02").equation("20", "13").equation("32", "23").equation("34", "04")
                 .equation("0" + "2".repeat(32) + "4", "");
-        bench.solver.run(5);
-        check.due("order", bench.tell(0, "2".repeat(32) + "04").solver.order(), 1);
+        bench.run(5);
+        check.due("order", bench.tell(0, "2".repeat(32) + "04").order(), 1);
     }
 
     /** What one word or one row of rules has taught is not true of the next. */
     private void afterOtherRules() {
         Bench bench = counter(0);
         check.due("by the first rules", bench.reduced("2".repeat(20) + "04"), "0" + "2".repeat(20) + "4");
-        bench.solver.begin(5);
+        bench.begin(5);
         bench.equation("10", "01").equation("20", "13").equation("31", "23").equation("34", "04");
-        bench.solver.run(4);
+        bench.run(4);
         check.due("by others", bench.reduced("2".repeat(20) + "04"), "0" + "1".repeat(20) + "4");
-        bench.solver.begin(5);
+        bench.begin(5);
         check.due("by none", bench.reduced("2".repeat(20) + "04"), "2".repeat(20) + "04");
     }
 
@@ -149,10 +146,11 @@ public final class ReducingTest {
             plain.equation();
         }
         int steps = words.length / 2 + (random.nextInt(4) == 0 ? 1 + random.nextInt(2) : 0);
-        bench.solver.run(steps);
+        bench.run(steps);
         plain.run(steps);
+        String name = bench.rules() + ": ";
         for (int i = 0; i < WORDS; i++) {
-            compare(bench, plain, randomWord(random, counter));
+            compare(bench, plain, name, randomWord(random, counter));
         }
     }
 
@@ -189,7 +187,7 @@ public final class ReducingTest {
         }
     }
 
-    private void compare(Bench bench, PlainSolver plain, String word) {
+    private void compare(Bench bench, PlainSolver plain, String name, String word) {
         String now = word;
         int replacements = 0;
         for (String then = now; then != null && replacements <= MOST_REPLACEMENTS; replacements++) {
@@ -200,9 +198,9 @@ public final class ReducingTest {
         if (replacements <= MOST_REPLACEMENTS) {
             compared++;
             many += replacements >= MANY_REPLACEMENTS ? 1 : 0;
-            check.due(bench.rules() + ": " + word, got, now);
+            check.due(name + word, got, now);
         } else {
-            check.due(bench.rules() + ": a left word stands in " + got, plain.replaceFirstEnding(got) == null, true);
+            check.due(name + "a left word stands in " + got, plain.replaceFirstEnding(got) == null, true);
         }
     }
 }

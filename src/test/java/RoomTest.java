@@ -33,11 +33,11 @@ public final class RoomTest {
 
     /** 64 long left words, so that every row is used as far as it goes; a long count; every call of the face. */
     private void callsKeepNothingNew() throws IllegalAccessException {
-        Bench bench = new Bench(6);
+        Bench bench = Bench.endless(6);
         Set<Object> before = heldBy(bench.solver);
         countDown(bench);
         askAll(bench);
-        bench.solver.begin(6);
+        bench.begin(6);
         manyLongLefts(bench);
         askAll(bench);
         Set<Object> after = heldBy(bench.solver);
@@ -47,7 +47,7 @@ public final class RoomTest {
 
     private void countDown(Bench bench) {
         bench.equation("10", "02").equation("20", "13").equation("32", "23").equation("34", "04");
-        bench.solver.run(4);
+        bench.run(4);
         check.due("a long count", bench.reduced("2".repeat(30) + "04"), "0" + "2".repeat(30) + "4");
     }
 
@@ -60,24 +60,24 @@ public final class RoomTest {
             }
             bench.equation(left + "0".repeat(33), "");
         }
-        bench.solver.run(64);
-        check.due("rules", bench.solver.count(1), 64);
-        check.due("the longest left word", bench.solver.count(7), 40);
-        check.due("words of 20 letters", bench.solver.words(20), (long) Math.pow(6, 20));
+        bench.run(64);
+        check.due("rules", bench.count(1), 64);
+        check.due("the longest left word", bench.count(7), 40);
+        check.due("words of 20 letters", bench.words(20), (long) Math.pow(6, 20));
     }
 
     private static void askAll(Bench bench) {
         bench.tell(0, "5012").tell(1, "21");
-        bench.solver.same();
-        bench.solver.words(20);
-        bench.solver.size();
-        bench.solver.index();
-        bench.solver.order();
-        bench.solver.find(12345);
-        bench.solver.reduce(1);
-        bench.solver.equation();
-        bench.solver.inverse(0, 1);
-        bench.solver.run(500);
+        bench.same();
+        bench.words(20);
+        bench.size();
+        bench.index();
+        bench.order();
+        bench.find(12345);
+        bench.reduce(1);
+        bench.equation();
+        bench.inverse(0, 1);
+        bench.run(500);
     }
 
     private static Set<Object> heldBy(Object root) throws IllegalAccessException {
