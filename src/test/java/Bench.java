@@ -11,6 +11,7 @@ final class Bench {
     final WordSolver solver = new WordSolver();
     private final int mostCalls;
     private int calls;
+    private int letters = 1;
 
     /** A new object, on which no call was made. */
     Bench() {
@@ -32,7 +33,9 @@ final class Bench {
     }
 
     int begin(int n) {
-        return called().begin(n);
+        int rules = called().begin(n);
+        letters = n;
+        return rules;
     }
 
     int letter(int which, int letter) {
@@ -130,13 +133,37 @@ final class Bench {
         return this;
     }
 
+    /** A becomes the word by one call; it has at most 20 letters, and there is no rule yet. */
+    Bench tellAtOnce(String word) {
+        find(numberWithoutRules(word));
+        return this;
+    }
+
+    /** The number of a word among all words. */
+    long numberWithoutRules(String word) {
+        long shorter = 0;
+        long number = 0;
+        long words = 1;
+        for (int i = 0; i < word.length(); i++) {
+            shorter += words;
+            words *= letters;
+            number = number * letters + word.charAt(i) - '0';
+        }
+        return shorter + number;
+    }
+
     /**
      * All 32 words of five letters 0 and 1 become left words; 960 equations of their overlaps wait,
-     * behind those that are told here, two words each.
+     * behind those that are told here, two words each. As 0000 is the right word of all of them, these
+     * 960 change nothing when it comes to them.
      */
     Bench crowd(String... told) {
         for (int bits = 0; bits < CROWD_RULES; bits++) {
-            nothings(Integer.toBinaryString(CROWD_RULES | bits).substring(1));
+            tellAtOnce(Integer.toBinaryString(CROWD_RULES | bits).substring(1));
+            for (int i = 0; i < 4; i++) {
+                letter(1, 0);
+            }
+            equation();
         }
         for (int i = 0; i < told.length; i += 2) {
             equation(told[i], told[i + 1]);
@@ -145,15 +172,11 @@ final class Bench {
         return this;
     }
 
-    /** As many equations wait as are named, the last ones of 00 and the empty word or of nothing at all. */
+    /** As many equations wait as are named, the last ones of nothing; A and B are empty behind it. */
     Bench fillTo(int number) {
-        int waiting = count(2);
-        for (int i = 0; i < (number - waiting) / 2; i++) {
-            inverse(0, 0);
-        }
-        if ((number - waiting) % 2 == 1) {
-            erase(0);
-            erase(1);
+        erase(0);
+        erase(1);
+        for (int waiting = count(2); waiting < number; waiting++) {
             equation();
         }
         return this;

@@ -1,4 +1,4 @@
-/** Each promise of the document, its edges and wrong inputs. */
+/** Each promise of the document: ordinary and wrong inputs; all its edges are in PromiseEdgesTest. */
 public final class PromisesTest {
     private static final int[] NOT_A_WORD = {-1, 2, 3, Integer.MIN_VALUE, Integer.MAX_VALUE};
 
@@ -141,7 +141,7 @@ public final class PromisesTest {
         check.throwsState("wrong inverse, stopped", () -> stopped.inverse(0, 9));
     }
 
-    /** Promise 7; the ways to be stopped are in StepsTest. */
+    /** Promise 7; the ways to be stopped are in TermEdgesTest. */
     private void run() {
         Bench bench = new Bench(2).equation("000", "").equation("11", "").equation("101", "00");
         check.due("run 0", bench.run(0), 0);

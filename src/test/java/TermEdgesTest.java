@@ -27,6 +27,7 @@ public final class TermEdgesTest {
         test.newRuleIsTheLast();
         test.rulesGoOut();
         test.rulesGoOutBehindAllOthers();
+        test.rulesGoOutAsTheyAre();
         test.rulesWithoutRoomStay();
         test.rightWordsOfOthers();
         test.overlapsFromOneOn();
@@ -323,6 +324,16 @@ public final class TermEdgesTest {
         check.due("gone: 21, 324, 52 and 01", bench.count(8), 4);
     }
 
+    /** "(its left word, its right word as they are)": 34 comes to be 1 only while they wait. */
+    private void rulesGoOutAsTheyAre() {
+        Bench left = new Bench(6).equation("342", "").equation("42", "5").equation("34", "1");
+        left.run(4);
+        check.due("342 waited, not 35", left.rules(), "42>5 34>1 12>");
+        Bench right = new Bench(6).equation("4200", "342").equation("42", "5").equation("34", "1");
+        right.run(4);
+        check.due("342 waited, not 35", right.rules(), "42>5 34>1 500>12");
+    }
+
     /** "(one that finds no room to wait stays in the row)" */
     private void rulesWithoutRoomStay() {
         String[] told = {"32", "4", "42", "3", "52", "", "2", ""};
@@ -339,7 +350,10 @@ public final class TermEdgesTest {
         }
     }
 
-    /** "of each other rule the right word is reduced, by all rules as they are then (the new one, too), the oldest first" */
+    /**
+     * "of each other rule the right word is reduced, by all rules as they are then (the new one, too), the
+     * oldest first"
+     */
     private void rightWordsOfOthers() {
         Bench bench = new Bench(6).equation("55", "32").equation("44", "").equation("35", "31").equation("3", "0");
         bench.run(3);
@@ -349,6 +363,12 @@ public final class TermEdgesTest {
         Bench full = new Bench(6).equation("5" + "0".repeat(39), "43".repeat(20)).equation("43", "");
         full.run(2);
         check.due("a right word of 40 letters becomes empty", full.rules(), "5" + "0".repeat(39) + "> 43>");
+        Bench order = new Bench(6).equation("303", "54").equation("222222", "13543").equation("15", "2")
+                .equation("54", "0");
+        order.run(3);
+        check.due("before", order.rules(), "303>54 222222>13543 15>2");
+        order.run(1);
+        check.due("1303 becomes 10, not 154", order.rules(), "303>0 222222>10 15>2 54>0");
     }
 
     /** "for k from 1 on" */
@@ -405,7 +425,10 @@ public final class TermEdgesTest {
         check.due("their step", bench.counts(), "1 1 0 2 1 0 0 2 0");
     }
 
-    /** "when a word of an equation would be longer than 40 letters": the right word and the rest of the other left word. */
+    /**
+     * "when a word of an equation would be longer than 40 letters": the right word and the rest of the
+     * other left word.
+     */
     private void stoppedByFirstWord() {
         String left = "1" + "0".repeat(19) + "1";
         Bench fits = new Bench(2).equation(left, "0".repeat(20));
@@ -540,7 +563,7 @@ public final class TermEdgesTest {
         serves(rule, "13000", "1");
         check.due("words of 4 letters", rule.words(4), 1296 - 64);
         Bench equation = Bench.stoppedByEquation();
-        serves(equation, "5011103", "53");
+        serves(equation, "5011103", "500003");
         check.due("words of 3 letters", equation.words(3), 215);
     }
 
