@@ -401,6 +401,7 @@ public final class PromiseEdgesTest {
         check.due("they stay", bench.told(), "1,10");
         bench.run(500);
         check.due("complete", bench.same(), 1);
+        check.due("they stay, though 10 could be reduced", bench.told(), "1,10");
         check.due("complete, of four letters", bench.tell(1, "1011").same(), 1);
         check.due("they are not", bench.tell(1, "011").same(), 0);
         bench.erase(0);
