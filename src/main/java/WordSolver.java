@@ -510,7 +510,7 @@ public final class WordSolver {
         }
     }
 
-    /** The equations that wait, in a ring; packed, as a thousand rows of letters would fill the room. */
+    /** The equations that wait, in a ring; packed, as rows of letters would take twenty times the elements. */
     private static final class Waiting {
         static final int PARTS = 4;
 

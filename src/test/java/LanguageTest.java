@@ -1,5 +1,7 @@
 import java.io.IOException;
 import java.lang.reflect.Field;
+import java.lang.reflect.Method;
+import java.lang.reflect.Modifier;
 import java.math.BigInteger;
 import java.nio.file.Files;
 import java.nio.file.Path;
@@ -7,11 +9,15 @@ import java.util.ArrayList;
 import java.util.List;
 import java.util.regex.Matcher;
 import java.util.regex.Pattern;
+import java.util.stream.Stream;
 
-/** Rules of LANGUAGE.md that can be seen in the text; run in the project's folder. */
+/** Rules of LANGUAGE.md that can be seen in the text or counted in the class; run in the project's folder. */
 public final class LanguageTest {
     private static final Path SOURCE = Path.of("src/main/java/WordSolver.java");
     private static final int LONGEST_METHOD = 60;
+    private static final int MOST_PARAMETERS = 7;
+    private static final int MOST_CLASSES = 12;
+    private static final int MOST_FIELDS = 20;
     // In the constructor of the row of rules.
     private static final String MADE_BY_RULES =
             "[                lefts[k] = new Word();,                 rights[k] = new Word();]";
@@ -39,8 +45,23 @@ public final class LanguageTest {
             check.due("a long method: " + method.strip().lines().findFirst().orElse(""),
                     method.lines().count() > LONGEST_METHOD, false);
         }
+        countMembers(check);
         check.due("reducing can take as many turns as any word may need", mostTurns().compareTo(neededTurns()) >= 0, true);
         check.end();
+    }
+
+    private static void countMembers(Check check) {
+        List<Class<?>> classes = new ArrayList<>(List.of(WordSolver.class.getDeclaredClasses()));
+        classes.add(WordSolver.class);
+        check.due("classes: " + classes.size(), classes.size() <= MOST_CLASSES, true);
+        for (Class<?> one : classes) {
+            long fields = Stream.of(one.getDeclaredFields()).filter(field -> !Modifier.isStatic(field.getModifiers()))
+                    .count();
+            check.due("fields of " + one + ": " + fields, fields <= MOST_FIELDS, true);
+            for (Method method : one.getDeclaredMethods()) {
+                check.due("parameters of " + method, method.getParameterCount() <= MOST_PARAMETERS, true);
+            }
+        }
     }
 
     /** A replacement makes the word lesser, so that it never comes again; ahead of it at most 40 letters are read. */

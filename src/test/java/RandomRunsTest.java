@@ -7,6 +7,10 @@ import java.util.Random;
 public final class RandomRunsTest {
     private static final int RUNS = 400;
     private static final int CALLS = 90;
+    // Among all words of six letters: the number of the first of four, and how many of four, of five there are.
+    private static final int FIRST_OF_FOUR = 259;
+    private static final int WORDS_OF_FOUR = 1296;
+    private static final int WORDS_OF_FIVE = 7776;
 
     private final Check check = new Check();
     private final Random random;
@@ -41,12 +45,35 @@ public final class RandomRunsTest {
         System.out.println("ended waiting " + states[0] + ", complete " + states[1] + ", stopped by a word " + states[2]
                 + ", a rule " + states[3] + ", an equation " + states[4] + "; rules gone " + gone
                 + "; seen to their last rule " + whole);
-        if (!good) {
+        if (!good || args.length == 0 && !isEachThere(states)) {
             System.exit(1);
         }
     }
 
+    /** The runs would show less than they seem to if they never came to one of the states. */
+    private static boolean isEachThere(int[] states) {
+        for (int state = 0; state < states.length; state++) {
+            if (states[state] == 0) {
+                System.out.println("no run ended with " + state + " as run() answers");
+                return false;
+            }
+        }
+        return true;
+    }
+
     private void runAll() {
+        if (random.nextInt(10) == 0) {
+            tellMany();
+        } else {
+            tellFew();
+        }
+        if (random.nextInt(3) == 0) {
+            run(200);
+        }
+        lookAtAll();
+    }
+
+    private void tellFew() {
         begin(1 + random.nextInt(6));
         int equations = 1 + random.nextInt(5);
         int longest = 1 + random.nextInt(random.nextInt(4) == 0 ? 14 : 6);
@@ -63,10 +90,24 @@ public final class RandomRunsTest {
         for (int i = 0; i < CALLS; i++) {
             anyCall();
         }
-        if (random.nextInt(3) == 0) {
-            run(200);
+    }
+
+    /** So many left words that many of these runs are stopped by a rule or by an equation too many. */
+    private void tellMany() {
+        begin(6);
+        int equations = 60 + random.nextInt(35);
+        int lefts = random.nextBoolean() ? WORDS_OF_FOUR : WORDS_OF_FOUR + WORDS_OF_FIVE;
+        for (int i = 0; i < equations; i++) {
+            sameAnswer("find", FIRST_OF_FOUR + random.nextInt(lefts), 0);
+            if (random.nextBoolean()) {
+                letter(1, random.nextInt(letters));
+            }
+            sameAnswer("equation", 0, 0);
         }
-        lookAtAll();
+        run(50 + random.nextInt(50));
+        for (int i = 0; i < CALLS / 6; i++) {
+            anyCall();
+        }
     }
 
     private void anyCall() {
@@ -122,7 +163,17 @@ public final class RandomRunsTest {
             same("count", what, 0);
         }
         same("size", 0, 0);
-        for (int what = 2; what < 2 + 2 * plain.count(1); what++) {
+        lookAtRules();
+        wholeSeen = solver.callsLeft() > 0;
+        same("begin", 3, 0);
+    }
+
+    /** From any of them on, as the calls may not be enough for all. */
+    private void lookAtRules() {
+        int words = 2 * plain.count(1);
+        int first = words == 0 ? 0 : random.nextInt(words);
+        for (int seen = 0; seen < words; seen++) {
+            int what = 2 + (first + seen) % words;
             int i = 0;
             while (plain.at(what, i) >= 0) {
                 same("at", what, i);
@@ -130,8 +181,6 @@ public final class RandomRunsTest {
             }
             same("at", what, i);
         }
-        wholeSeen = solver.callsLeft() > 0;
-        same("begin", 3, 0);
     }
 
     private void begin(int n) {
@@ -174,16 +223,19 @@ public final class RandomRunsTest {
         }
     }
 
-    /** Makes the call on both, if one is left. */
     private void same(String call, int x, int y) {
-        if (solver.callsLeft() == 0) {
-            return;
-        }
-        String got = Check.outcome(() -> onSolver(call, x, y));
-        String want = Check.outcome(() -> onPlain(call, x, y));
-        check.due(name + call + "(" + x + ", " + y + ")", got, want);
+        sameAnswer(call, x, y);
         if (call.equals("reduce") || call.equals("equation")) {
             sameWords();
+        }
+    }
+
+    /** Makes the call on both, if one is left. */
+    private void sameAnswer(String call, int x, int y) {
+        if (solver.callsLeft() > 0) {
+            String got = Check.outcome(() -> onSolver(call, x, y));
+            String want = Check.outcome(() -> onPlain(call, x, y));
+            check.due(name + call + "(" + x + ", " + y + ")", got, want);
         }
     }
 
@@ -209,6 +261,7 @@ public final class RandomRunsTest {
             case "at" -> solver.at(x, y);
             case "words" -> solver.words(x);
             case "size" -> solver.size();
+            case "find" -> solver.find(x);
             case "index" -> solver.index();
             case "order" -> solver.order();
             default -> solver.count(x);
@@ -228,6 +281,7 @@ public final class RandomRunsTest {
             case "at" -> plain.at(x, y);
             case "words" -> plain.words(x);
             case "size" -> plain.size();
+            case "find" -> plain.find(x);
             case "index" -> plain.index();
             case "order" -> plain.order();
             default -> plain.count(x);
